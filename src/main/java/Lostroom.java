@@ -377,7 +377,7 @@ public final class Lostroom {
         // A word that all of them have, or none, is as far from half as all of them; so only one that tells is nearer.
         int bestFromHalf = candidates;
         for (int word = 0; word < WORDS; word++) {
-            if ((asked.words & 1 << word) == 0) {
+            if ((asked.words & (1 << word)) == 0) {
                 int fromHalf = Math.abs(2 * countNotedWith(word) - candidates);
                 if (fromHalf < bestFromHalf) {
                     best = word;
@@ -502,17 +502,17 @@ public final class Lostroom {
         if (one == other) throw new IllegalArgumentException("both are the same");
         relation[one] ^= 1 << other;
         relation[other] ^= 1 << one;
-        return (relation[one] & 1 << other) != 0;
+        return (relation[one] & (1 << other)) != 0;
     }
 
     private boolean areAlike(int kind, int other) {
-        return kind >= 0 && kind < alikeKinds.length && (alikeKinds[kind] & 1 << other) != 0;
+        return kind >= 0 && kind < alikeKinds.length && (alikeKinds[kind] & (1 << other)) != 0;
     }
 
     private int wordsNear(int words) {
         int near = 0;
         for (int word = 0; word < nearWords.length; word++) {
-            if ((words & 1 << word) != 0) near |= nearWords[word];
+            if ((words & (1 << word)) != 0) near |= nearWords[word];
         }
         return near;
     }
@@ -560,7 +560,7 @@ public final class Lostroom {
 
     private int scoreOfWords(Found found, Claim claim) {
         // A hidden word counts only for who tells it as a proof, or scores would give away what is hidden.
-        int known = found.words | found.secret & claim.told;
+        int known = found.words | (found.secret & claim.told);
         int fitting = claim.words & known;
         int others = claim.words & ~known;
         int close = others & wordsNear(known);
@@ -592,7 +592,7 @@ public final class Lostroom {
             boolean isRival = other != null && other.number != claim.number && other.state == OPEN;
             if (isRival && other.proves(found)) {
                 int score = scoreOf(found, other);
-                if (score > own || score == own && other.number < claim.number) return true;
+                if (score > own || (score == own && other.number < claim.number)) return true;
             }
         }
         return false;
@@ -615,7 +615,7 @@ public final class Lostroom {
         int own = scores[find];
         int better = 0;
         for (int i = 0; i < scores.length; i++) {
-            if (scores[i] > own || scores[i] == own && i < find) better++;
+            if (scores[i] > own || (scores[i] == own && i < find)) better++;
         }
         return better;
     }
@@ -624,7 +624,7 @@ public final class Lostroom {
         int count = 0;
         for (int i = 0; i < scores.length && i < finds.length; i++) {
             Found found = finds[i];
-            if (found != null && scores[i] != NONE && ((found.words | found.secret) & 1 << word) != 0) count++;
+            if (found != null && scores[i] != NONE && ((found.words | found.secret) & (1 << word)) != 0) count++;
         }
         return count;
     }
