@@ -12,7 +12,11 @@ final class Checks {
         void on(Lostroom room);
     }
 
-    /** Names the promise that the checks after it belong to. */
+    interface CallWith {
+        void on(Lostroom room, int number);
+    }
+
+    /** Names the promise or the sentence that the checks after it belong to. */
     void promise(String name) {
         promise = name;
     }
@@ -43,21 +47,62 @@ final class Checks {
         throwing(what, IllegalStateException.class, setup, call);
     }
 
+    /** A call that is not refused; what it answers is told elsewhere. */
+    void taken(String what, Setup setup, Call call) {
+        done++;
+        Class<?> got = thrownBy(setup.make(), call);
+        if (got != null) report(what + " is to be taken, but throws " + got.getName());
+    }
+
+    /** The numbers from least to most are there: the last ones on either side, and the first that are refused. */
+    void boundsFrom(String what, int least, int most, Setup setup, CallWith call) {
+        range(what, IndexOutOfBoundsException.class, least, most, setup, call);
+    }
+
+    /** The numbers from least to most are in the range of an argument. */
+    void argumentFrom(String what, int least, int most, Setup setup, CallWith call) {
+        range(what, IllegalArgumentException.class, least, most, setup, call);
+    }
+
+    /** Sets of the words 0 to 23 are taken, others are not. */
+    void words(String what, Setup setup, CallWith call) {
+        int[] taken = {0, 1, 1 << 23, 0xFFFFFF};
+        int[] refused = {-1, Integer.MIN_VALUE, 1 << 24, 1 << 24 | 1, 1 << 30, Integer.MAX_VALUE, ~0xFFFFFF};
+        for (int set : taken) taken(what + " " + set, setup, room -> call.on(room, set));
+        for (int set : refused) argument(what + " " + set, setup, room -> call.on(room, set));
+    }
+
+    private void range(String what, Class<?> refusal, int least, int most, Setup setup, CallWith call) {
+        int[] taken = {least, most};
+        int[] refused = {least - 1, most + 1, Integer.MIN_VALUE, Integer.MAX_VALUE};
+        for (int number : taken) taken(what + " " + number, setup, room -> call.on(room, number));
+        for (int number : refused) throwing(what + " " + number, refusal, setup, room -> call.on(room, number));
+    }
+
     /**
      * The exception's class has to be the very one, since the machine's own exceptions are below it. What the call left
      * is held against another object made alike, so that no object is asked more than the 512 calls it is good for.
      */
     private void throwing(String what, Class<?> want, Setup setup, Call call) {
-        Lostroom room = setup.make();
-        Class<?> got = null;
+        for (int depth = 0; depth < Depths.COUNT; depth++) {
+            Lostroom room = setup.make();
+            Class<?> got = thrownBy(room, call);
+            if (depth == 0) {
+                done++;
+                String name = got == null ? "nothing" : got.getName();
+                if (got != want) report(what + ": due is " + want.getName() + ", got " + name);
+            }
+            isText(what + " changes nothing", Depths.of(setup.make(), depth), Depths.of(room, depth));
+        }
+    }
+
+    private static Class<?> thrownBy(Lostroom room, Call call) {
         try {
             call.on(room);
+            return null;
         } catch (RuntimeException e) {
-            got = e.getClass();
+            return e.getClass();
         }
-        done++;
-        if (got != want) report(what + ": due is " + want.getName() + ", got " + (got == null ? "nothing" : got.getName()));
-        isText(what + " changes nothing", Picture.of(setup.make()), Picture.of(room));
     }
 
     private void report(String text) {
