@@ -207,18 +207,20 @@ public final class ProofsTest {
         }
     }
 
-    private static Lostroom withThreshold(int threshold) {
-        Lostroom room = kept(1, 3);
+    private static Lostroom withThreshold(boolean isSold, int threshold) {
+        Lostroom room = withClaims(isSold, 1, 3);
         room.threshold(threshold);
         return room;
     }
 
     private static void beatenWithoutThreshold() {
-        c.promise("promise 17: no candidate of the claim");
+        c.promise("promises 17 and 21: refused if it is no candidate of the claim");
         int best = kept(1, 3).fit(0, 1);
-        c.is("just the threshold", 5, withThreshold(best).release(0, 1));
-        c.state("below the threshold", () -> withThreshold(best + 1), r -> r.release(0, 1));
-        c.state("beaten and below the threshold", () -> withThreshold(best), r -> r.release(0, 0));
+        c.is("release at the threshold", 5, withThreshold(false, best).release(0, 1));
+        c.state("release below the threshold", () -> withThreshold(false, best + 1), r -> r.release(0, 1));
+        c.state("beaten and below the threshold", () -> withThreshold(false, best), r -> r.release(0, 0));
+        c.is("payOut at the threshold", 35, withThreshold(true, best).payOut(0, 1));
+        c.state("payOut below the threshold", () -> withThreshold(true, best + 1), r -> r.payOut(0, 1));
         c.promise("NONE is less than 0");
         Lostroom room = new Lostroom();
         room.threshold(1);

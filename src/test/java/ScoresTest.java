@@ -17,6 +17,7 @@ public final class ScoresTest {
         atLeastZero();
         threshold();
         thresholdAtItsEnds();
+        thresholdOfTerms();
         candidatesInOrder();
         questionNearToHalf();
         questionOfWhatIsHad();
@@ -210,6 +211,9 @@ public final class ScoresTest {
         c.is("told, and near", 3, fitOfNearWords(2, 0, 0, 1));
         c.is("near to two of them counts once", 3, fitOfNearWords(1 << 6 | 1 << 7, 0, 1 << 5, 0));
         c.is("two that are near to one", 6, fitOfNearWords(1 << 5, 0, 1 << 6 | 1 << 7, 0));
+        c.is("near to the first of three", 3, fitOfNearWords(2 | 1 << 9 | 1 << 23, 0, 1, 0));
+        c.is("near to the last of three", 3, fitOfNearWords(2 | 1 << 9 | 1 << 23, 0, 1 << 22, 0));
+        c.is("each near to another one", 6, fitOfNearWords(2 | 1 << 9 | 1 << 23, 0, 1 | 1 << 22, 0));
         c.is("near to what is near", -1, fitOfNearWords(1 << 6, 0, 1 << 7, 0));
         c.is("a word of it, and near to another one of it", 6, fitOfNearWords(3, 0, 1, 0));
         c.is("both of them", 12, fitOfNearWords(3, 0, 3, 0));
@@ -298,6 +302,34 @@ public final class ScoresTest {
         c.is("the one before", 200, room.threshold(1));
         c.is("the lowest before", 1, room.threshold(1));
         c.is("the same before", 1, room.threshold(200));
+    }
+
+    /** The find 0 is wanted by a claim with a score of 80, and not held, on the day after its last day. */
+    private static Lostroom wanted(int threshold) {
+        Lostroom room = Rooms.withFinds(1);
+        room.pass(61);
+        room.claim(0, 0, 0, 0, 0);
+        room.threshold(threshold);
+        return room;
+    }
+
+    private static void thresholdOfTerms() {
+        c.promise("a find's term is over, if it is no candidate of any claim");
+        c.is("just the threshold", false, wanted(80).isDue(0));
+        c.is("one below the threshold", true, wanted(81).isDue(0));
+        c.state("sell at the threshold", () -> wanted(80), r -> r.sell(0, 1));
+        c.state("destroy at the threshold", () -> wanted(80), r -> r.destroy(0));
+        c.is("sell below the threshold", 1, wanted(81).sell(0, 1));
+        c.is("destroy below the threshold", 0, wanted(81).destroy(0));
+        Lostroom room = wanted(81);
+        for (int i = 1; i < 20; i++) room.claim(0, 0, 0, 0, 0);
+        c.is("wanted by none of 20 claims", true, room.isDue(0));
+        room.see(0, 1);
+        c.is("not by what no claim says", true, room.isDue(0));
+        room.say(19, 1);
+        c.is("wanted by the last one of 20", false, room.isDue(0));
+        room.withdraw(19);
+        c.is("wanted by none any more", true, room.isDue(0));
     }
 
     private static void candidatesInOrder() {

@@ -11,6 +11,7 @@ public final class StatesTest {
             callsThatWantATermThatIsOver(state);
             asksOfFind(state);
         }
+        roomsOfWhatWasMoved();
         whatIsHeld();
         whatPerishes();
         for (int i = 0; i < CLAIMS.length; i++) {
@@ -47,6 +48,47 @@ public final class StatesTest {
         c.is("its state on the next day", isThere ? Lostroom.KEPT : state, room.ofFind(0, 0));
         c.is("KEPT in the room 3 on the next day", isThere ? 1 : 0, room.audit(3));
         c.is("its hands on the next day", isThere ? 2 : 1, room.ofFind(0, 4));
+    }
+
+    /** Told in the room 0, it came to the room 4 by a bag, or turned up in the room 5. */
+    private static Lostroom moved(boolean isByBag) {
+        Lostroom room = Rooms.withFinds(1);
+        room.send(0, 4);
+        if (!isByBag) {
+            room.lose(4);
+            room.turnUp(0, 5);
+        }
+        room.pass(61);
+        return room;
+    }
+
+    private static void roomsOfWhatWasMoved() {
+        for (boolean isByBag : new boolean[] {true, false}) {
+            int last = isByBag ? 4 : 5;
+            c.promise("promise 29: of others the room in which it was KEPT last");
+            Lostroom room = moved(isByBag);
+            c.is("KEPT", last, room.ofFind(0, 1));
+            room.claim(0, 0, 0, 0, 0);
+            room.release(0, 0);
+            c.is("RELEASED", last, room.ofFind(0, 1));
+            Lostroom sold = moved(isByBag);
+            sold.sell(0, 9);
+            c.is("SOLD", last, sold.ofFind(0, 1));
+            sold.claim(0, 0, 0, 0, 0);
+            sold.payOut(0, 0);
+            c.is("PAID_OUT", last, sold.ofFind(0, 1));
+            c.is("none is KEPT there", 0, sold.audit(last));
+            c.promise("promise 20: the room in which it was");
+            Lostroom destroyed = moved(isByBag);
+            c.is("destroyed", last, destroyed.destroy(0));
+            c.is("DESTROYED", last, destroyed.ofFind(0, 1));
+            c.promise("promise 9: the room from which it goes");
+            Lostroom sent = moved(isByBag);
+            c.is("sent on", last, sent.send(0, 1));
+            c.is("ON_THE_WAY", 1, sent.ofFind(0, 1));
+            sent.lose(1);
+            c.is("MISSING", 1, sent.ofFind(0, 1));
+        }
     }
 
     private static void callsOfFind(int state) {
